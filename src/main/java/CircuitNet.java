@@ -609,7 +609,6 @@ public final class CircuitNet {
             return value;
         }
 
-        @Override
         void arrive(int kind, int a, int b) {
             switch (kind) {
                 case CALL:
@@ -647,7 +646,6 @@ public final class CircuitNet {
             }
         }
 
-        @Override
         void beLost() {
             state = UNUSED;
         }
@@ -689,7 +687,6 @@ public final class CircuitNet {
             this.routes = routes;
         }
 
-        @Override
         void arrive(int kind, int a, int b) {
             boolean mayGiveWay = unanswered && !at.isFirst;
             unanswered = false;
@@ -713,7 +710,6 @@ public final class CircuitNet {
             }
         }
 
-        @Override
         void beLost() {
             Joint other = leave();
             if (other != null) {
