@@ -19,6 +19,22 @@ final class Check {
         }
     }
 
+    static void due(String what, String got, String want) {
+        if (!got.equals(want)) {
+            wrong++;
+            System.out.println(what + " is " + got + ", due is " + want);
+        }
+    }
+
+    /** The test of one sentence of the document, which is told when an answer in it was wrong. */
+    static void edge(String sentence, Runnable test) {
+        int before = wrong;
+        test.run();
+        if (wrong != before) {
+            System.out.println("  BROKEN: " + sentence);
+        }
+    }
+
     static void finish() {
         System.out.println(wrong == 0 ? "all answers are as due" : wrong + " answers are not as due");
         if (wrong != 0) {

@@ -10,7 +10,7 @@ public final class WrongInputTest {
         Nets.settle(net);
         net.send(0, 3, 5);
         net.call(1, 0);
-        String before = picture(net);
+        String before = Nets.picture(net);
         for (int i : ODD) {
             for (int j : ODD) {
                 channels(net, i, j);
@@ -90,28 +90,6 @@ public final class WrongInputTest {
     }
 
     private static void same(CircuitNet net, String before, String what) {
-        Check.due(what + " change nothing, which", picture(net).equals(before), true);
-    }
-
-    private static String picture(CircuitNet net) {
-        StringBuilder text = new StringBuilder();
-        for (int p = 0; p < 4; p++) {
-            for (int c = 1; c <= 3; c++) {
-                text.append(net.state(p, c)).append(' ').append(net.peer(p, c)).append(' ');
-                text.append(net.unread(p, c)).append(' ');
-            }
-        }
-        for (int link = 0; link < 5; link++) {
-            for (int end = 0; end < 2; end++) {
-                text.append(net.row(link, end)).append(' ').append(net.epoch(link, end)).append(' ');
-                text.append(net.up(link, end)).append(' ').append(net.busy(link, end)).append(' ');
-                for (int k = 0; k < net.frames(link, end); k++) {
-                    for (int w = 0; w < 8; w++) {
-                        text.append(net.frame(link, end, k, w)).append(' ');
-                    }
-                }
-            }
-        }
-        return text.toString();
+        Check.due(what + " change nothing, which", Nets.picture(net).equals(before), true);
     }
 }
