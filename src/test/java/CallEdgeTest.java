@@ -174,13 +174,18 @@ public final class CallEdgeTest {
     }
 
     private static void callWhileSetting() {
-        CircuitNet net = inState(1);
-        net.tick(16);
-        Check.due("SETTING", net.up(0, 0), false);
-        String before = Nets.picture(net);
-        Check.due("call", net.call(0, 1), -1);
-        same(net, before, "a call while SETTING");
-        Check.due("the end of the called does not count", net.call(1, 0), 3);
+        for (int p = 0; p < 4; p++) {
+            CircuitNet net = new CircuitNet();
+            net.call(p, (p + 1) % 4);
+            net.tick(16);
+            Check.due("SETTING", net.up(p, 0), false);
+            String before = Nets.picture(net);
+            Check.due("call by " + p, net.call(p, (p + 1) % 4), -1);
+            same(net, before, "a call while SETTING");
+            for (int q = 0; q < 4; q++) {
+                Check.due("the end of the called does not count", q == p || net.call(q, p) == 3, true);
+            }
+        }
     }
 
     private static void callWithoutChannel() {

@@ -268,6 +268,7 @@ public final class TerminalEdgeTest {
         int last = net.frames(p, 1) - 1;
         Check.due("CLEARED", net.frame(p, 1, last, 4), 3);
         Check.due("its channel", net.frame(p, 1, last, 5), c);
+        Check.due("its A and B", net.frame(p, 1, last, 6) + net.frame(p, 1, last, 7), 0);
         Check.due("the channel may call again", net.busy(p, 0), 0);
     }
 
@@ -340,6 +341,11 @@ public final class TerminalEdgeTest {
         net.deliver(0, 0);
         Check.due("the second TAKEN came", net.send(0, 3, 4), 4);
         Check.due("FULL", net.send(0, 3, 5), -2);
+        for (int v = 0; v < 3; v++) {
+            Check.due("DATA the other way", net.send(1, 1, v), v);
+            Nets.settle(net);
+            Check.due("DATA is not TAKEN", net.send(0, 3, 5), -2);
+        }
     }
 
     private static void takenElsewhere() {
@@ -369,7 +375,7 @@ public final class TerminalEdgeTest {
         Check.due("unread after RESET", net.unread(1, 1), 0);
         stateIs(net, 1, 1, OPEN);
         Check.due("peer", net.peer(1, 1), 0);
-        Nets.wordsAre(net, 1, 1, 4, "-1 -1 7");
+        Nets.frameIs(net, 1, 1, 2, 2, 0, 1, 3, 7, 1, 0, 0);
         Check.due("it may send at once", net.send(1, 1, 5), 0);
         Nets.settle(net);
         Check.due("and the value comes after AGREED", net.read(0, 3), 5);
