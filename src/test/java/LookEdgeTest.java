@@ -40,7 +40,8 @@ public final class LookEdgeTest {
         Check.edge("Promise 15: or that kind of frame has none (SET)", LookEdgeTest::wordsOfSet);
         Check.edge("Promise 15: or that kind of frame has none (SETTLED)", LookEdgeTest::wordsOfSettled);
         Check.edge("Promise 15: READY its due, too", LookEdgeTest::wordsOfReady);
-        Check.edge("Promise 15: its kind (w = 0), epoch (1), the number of its packet (2) (INFO)", LookEdgeTest::wordsOfInfo);
+        Check.edge("Promise 15: its kind (w = 0), epoch (1), the number of its packet (2) (INFO)",
+                LookEdgeTest::wordsOfInfo);
     }
 
     private static void ends() {
