@@ -18,8 +18,8 @@ final class Forge {
             number(end, "first");
             number(end, "due");
             frame(net, 0, 0, 3, 0, -1, 0, -1);
-            packet(0, 1, 0, 0);
-            return net.frames(0, 0) == 1;
+            waits(net, 0, 0, packet(0, 1, 0, 0));
+            return net.frames(0, 0) == 1 && net.row(0, 0) == 1;
         } catch (IllegalStateException unknown) {
             return false;
         }
@@ -39,6 +39,12 @@ final class Forge {
             int packet) {
         Object wire = value(end(net, link, end), "in");
         call(wire.getClass(), wire, "add", kind, epoch, number, due, packet);
+    }
+
+    /** The packet stands last in the row of an end, which does not send on. */
+    static void waits(CircuitNet net, int link, int end, int packet) {
+        Object row = value(end(net, link, end), "row");
+        call(row.getClass(), row, "add", packet);
     }
 
     static int packet(int kind, int channel, int a, int b) {

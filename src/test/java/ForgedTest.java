@@ -44,6 +44,7 @@ public final class ForgedTest {
                 ForgedTest::lesserSetWhileUp);
         Check.edge("SET of epoch e arrives: when e is greater (by more than 1)", ForgedTest::farGreaterSet);
         Check.edge("SETTLED of its epoch (another one, while it is UP)", ForgedTest::otherSettledWhileUp);
+        Check.edge("SETTLED .. it is UP, and sends on.", ForgedTest::settledSendsOn);
     }
 
     private static void confirmsTooMany() {
@@ -123,6 +124,25 @@ public final class ForgedTest {
             net.tick(1);
             Check.due("the clock went on", net.frames(0, 1), 2);
         }
+    }
+
+    private static void settledSendsOn() {
+        CircuitNet net = new CircuitNet();
+        net.call(0, 1);
+        net.tick(16);
+        Check.due("UP", net.up(0, 0), false);
+        Nets.deliverLast(net, 0, 1);
+        for (int a = 1; a <= 5; a++) {
+            Forge.waits(net, 0, 0, Forge.packet(DATA, 3, a, 0));
+        }
+        Check.due("all wait", net.frames(0, 1), 0);
+        Nets.deliverLast(net, 0, 0);
+        Check.due("UP", net.up(0, 0), true);
+        Nets.wordsAre(net, 0, 1, 0, "2 2 2 2");
+        Nets.wordsAre(net, 0, 1, 1, "1 1 1 1");
+        Nets.wordsAre(net, 0, 1, 2, "0 1 2 3");
+        Nets.wordsAre(net, 0, 1, 6, "1 2 3 4");
+        Check.due("row", net.row(0, 0), 5);
     }
 
     /** Terminal 0 with its channel 3 in that state, and no frame under way to its end. */
